@@ -902,7 +902,7 @@ public final class HatCongress {
 
         /** The first place from one on whose byte is not of that range. */
         int endOfRun(int from, int least, int most) {
-            int place = Math.max(from, 0);
+            int place = from < 0 ? 0 : from;
             while (place < length && bytes[place] >= least && bytes[place] <= most) {
                 place++;
             }
@@ -917,7 +917,7 @@ public final class HatCongress {
         private static final int NUMBER = 2;
         private static final int SEMICOLON = 3;
         private static final int OTHER = 4;
-        /** Above every number that may be, so that no row of digits runs over. */
+        /** Above every number that may be: no more digits are counted in, so that none runs over. */
         private static final int TOO_MUCH = 1000;
 
         private final Tape tape;
@@ -1104,8 +1104,8 @@ public final class HatCongress {
 
         private int valueOfDigits() {
             int value = 0;
-            for (int i = start; i < end && i < tape.length; i++) {
-                value = Math.min(value * 10 + tape.bytes[i] - '0', TOO_MUCH);
+            for (int i = start; i < end && i < tape.length && value < TOO_MUCH; i++) {
+                value = value * 10 + tape.bytes[i] - '0';
             }
             return value;
         }

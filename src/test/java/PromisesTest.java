@@ -96,15 +96,18 @@ public final class PromisesTest {
         x.hat(1, 1);
         x.hat(0, 0);
         x.hat(4, 0);
-        due("now(4), the topper says nothing", x.now(4), 3);
         due("now(5)", x.now(5), 5);
+        due("now(4), the topper says nothing", x.now(4), 3);
         due("now(6)", x.now(6), 31);
         x.set(1, 2, 3);
         due("now(4), the topper speaks", x.now(4), 6);
         x.set(0, 5, 0);
         x.set(4, 5, 0);
-        due("now(4), without 0", x.now(4), 5);
         due("now(5), without 4", x.now(5), 1);
+        x.set(3, 5, 0);
+        due("now(4), without 0", x.now(4), 5);
+        due("now(5), without 3 and 4", x.now(5), 0);
+        x.set(3, 5, 1);
         due("now(6)", x.now(6), 14);
         due("now(0)", x.now(0), 0);
         x.sessions(10);
@@ -236,6 +239,8 @@ public final class PromisesTest {
         due("turn(0, 5)", x.turn(0, 5), 0);
         due("turn(0, 3)", x.turn(0, 3), 5);
         due("turn(0, 3)", x.turn(0, 3), 3);
+        due("turn(0, 0)", x.turn(0, 0), 3);
+        due("turn(0, 3)", x.turn(0, 3), 0);
         int[] traits = {3, 7, 4, 5, 6, 1};
         for (int what = 0; what < traits.length; what++) {
             due("of(0, " + what + ")", x.of(0, what), traits[what]);
@@ -415,6 +420,20 @@ public final class PromisesTest {
             due("comes(" + b[0] + ", " + b[1] + ")", x.comes(b[0], b[1]), BEYOND);
         }
         due("status(3)", x.status(3), 1);
+        HatCongress late = longRight(0, 199);
+        late.holds(1, 255);
+        due("comes(7, 0), in the last session that counts", late.comes(7, 0), 200);
+        late = longRight(0, 200);
+        late.holds(1, 255);
+        due("comes(0, 0), a session too late", late.comes(0, 0), NONE);
+    }
+
+    /** A bowler wrong so often ahead of now that it says the other way round, and is right, for a long time. */
+    private static HatCongress longRight(int view, int wrongs) {
+        HatCongress x = withHats(1, view);
+        x.holds(0, 255);
+        x.set(0, 3, wrongs);
+        return x;
     }
 
     private static void wise() {
@@ -428,6 +447,9 @@ public final class PromisesTest {
         x.holds(0, 0);
         due("wise(), against 171", x.wise(), 8);
         due("now(0)", x.now(0), 0);
+        // It is right of all but question 7, 6 times more often than wrong in 8 sessions, till it is reversed no more.
+        due("wise(), in the last session that counts", longRight(128, 151).wise(), 200);
+        due("wise(), a session too late", longRight(128, 152).wise(), NONE);
         HatCongress none = new HatCongress();
         due("wise() of none", none.wise(), NONE);
         due("status(3)", none.status(3), 1);
@@ -453,6 +475,8 @@ public final class PromisesTest {
         late.sessions(1);
         late.set(0, 1, 1);
         due("errs(0), seven sessions on", late.errs(0), 8);
+        due("errs(0), in the last session that counts", longRight(0, 199).errs(0), 200);
+        due("errs(0), a session too late", longRight(0, 200).errs(0), NONE);
     }
 
     private static void lift() {
@@ -476,6 +500,16 @@ public final class PromisesTest {
         }
         due("now(6)", x.now(6), 0);
         due("lift(1) of none", new HatCongress().lift(1), NONE);
+        HatCongress fools = withHats(0, 255, 255);
+        fools.holds(0, 0);
+        fools.holds(1, 255);
+        due("lift(1), no TRUE ONES at all", fools.lift(1), 0);
+        HatCongress ten = withHats(0, 0, 0, 0, 0, 0, 0, 0, 0, 0, 1);
+        for (int h = 1; h < 9; h++) {
+            ten.set(h, 5, 0);
+        }
+        ten.holds(1, 1);
+        due("lift(1), the tenth", ten.lift(1), 9);
     }
 
     private static void kind() {
@@ -518,6 +552,8 @@ public final class PromisesTest {
         HatCongress x = withHats(0, 0);
         x.holds(0, 255);
         due("faith(0, 16, 0)", x.faith(0, 16, 0), 0);
+        due("faith(0, 1, 1)", x.faith(0, 1, 1), NONE);
+        due("faith(0, 1, 0)", x.faith(0, 1, 0), 0);
         due("faith(0, 16, 1)", x.faith(0, 16, 1), 50);
         due("faith(0, 16, 3)", x.faith(0, 16, 3), 60);
         due("faith(0, 16, 8)", x.faith(0, 16, 8), 85);
@@ -555,6 +591,16 @@ public final class PromisesTest {
         x.holds(1, 2);
         due("swing(), in session 1", x.swing(), 0);
         due("swing() of none", new HatCongress().swing(), NONE);
+        due("swing() of ten", withHats(0, 0, 0, 0, 0, 0, 0, 0, 0, 0, 1).swing(), NONE);
+        HatCongress tenth = withHats(0, 0, 0, 0, 0, 0, 1, 1, 1, 1, 1);
+        tenth.set(0, 5, 0);
+        tenth.set(8, 5, 0);
+        tenth.holds(1, 1);
+        due("swing() of eight, even", tenth.swing(), 5);
+        tenth.set(9, 1, 0);
+        due("swing() of eight, no by two", tenth.swing(), NONE);
+        tenth.set(9, 5, 0);
+        due("swing() of seven, no by one", tenth.swing(), 1);
     }
 
     private static void revise() {
@@ -571,6 +617,15 @@ public final class PromisesTest {
         due("revise(8), two are off", x.revise(8), 3);
         due("now(2)", x.now(2), 0);
         due("revise(60) of none", new HatCongress().revise(60), 0);
+        HatCongress doubter = withHats(0, 247);
+        doubter.holds(0, 255);
+        due("revise(8), from yes to no", doubter.revise(8), 3);
+        HatCongress ten = withHats(0, 0, 0, 0, 0, 0, 0, 0, 0, 0, 128);
+        ten.holds(0, 0);
+        for (int h = 0; h < 9; h++) {
+            ten.set(h, 5, 0);
+        }
+        due("revise(8), the tenth", ten.revise(8), 7);
         for (int n : new int[] {0, -1, 61, LEAST, MOST}) {
             due("revise(" + n + ")", x.revise(n), BEYOND);
         }
@@ -593,6 +648,8 @@ public final class PromisesTest {
         x.set(0, 3, 9999);
         due("best(200)", x.best(200), 1);
         due("now(0)", x.now(0), 0);
+        HatCongress ten = withHats(0, 85, 85, 85, 85, 85, 85, 85, 85, 85, 170);
+        due("best(3), the tenth", ten.best(3), 9);
         HatCongress none = new HatCongress();
         due("best(0) of none", none.best(0), NONE);
         due("best(201) of none", none.best(201), BEYOND);
@@ -673,6 +730,7 @@ public final class PromisesTest {
             "truth 5 6", "truth 99999999999999999999", "holds", "holds 8 yes", "holds 3", "holds 3 maybe",
             "holds 3 yesno", "holds 3 yes no", "lift", "lift 2", "hat;lift 3", "lift 0 1", "lift x", "yes", "7",
             "hat-", "hat\tview 1", "hat view -1", "truth 5;lift 9", "ha", "hat view 1faith", "hat ;\u00ff",
+            "bat", "haw", "hbt view 1", "hat vie 1", "hat xiew 1", "hat faitx 1", "hat ofg", "holds 3 des", "lifts 0",
         };
         int[] places = {
             0, 3, 0, 0, 5, 5, 0, 4, 4, 4, 8, 9,
@@ -681,6 +739,7 @@ public final class PromisesTest {
             8, 6, 5, 6, 7, 8,
             8, 12, 4, 5, 9, 7, 5, 0, 0,
             3, 3, 9, 13, 0, 15, 5,
+            0, 0, 0, 4, 4, 4, 4, 8, 0,
         };
         due("as many faults as texts", places.length, texts.length);
         for (int i = 0; i < texts.length && i < places.length; i++) {
@@ -943,10 +1002,15 @@ public final class PromisesTest {
         due("hat(0, 4)", x.hat(0, 4), 1);
         due("undo(), again", x.undo(), 0);
         due("hat(0, 4)", x.hat(0, 4), 0);
-        x.set(0, 2, 5);
+        for (int what = 2; what <= 5; what++) {
+            x.set(0, what, what == 5 ? 0 : 9);
+        }
         x.undo();
         x.hat(0, 0);
-        due("of(0, 2), a new one", x.of(0, 2), 0);
+        int[] fresh = {0, 0, 0, 0, 50, 1};
+        for (int what = 0; what < fresh.length; what++) {
+            due("of(0, " + what + "), a new one", x.of(0, what), fresh[what]);
+        }
     }
 
     private static void tear() {
@@ -976,6 +1040,13 @@ public final class PromisesTest {
         for (int what : new int[] {-1, 4, LEAST, MOST}) {
             due("count(" + what + ")", x.count(what), BEYOND);
         }
+        HatCongress ten = withHats(0, 0, 0, 0, 0, 0, 0, 0, 0, 0, 0);
+        for (int h = 0; h < 10; h++) {
+            ten.set(h, 2, 9999);
+            ten.set(h, 3, 9990 + h);
+        }
+        due("count(2) of ten", ten.count(2), 99990);
+        due("count(3) of ten", ten.count(3), 99945);
     }
 
     private static void status() {
