@@ -28,8 +28,7 @@ public final class HatCongress {
     private final Table ahead = new Table();
     private final Table image = new Table();
     private boolean imageKept;
-    private final Tape tape = new Tape();
-    private final Clerk clerk = new Clerk(tape, ahead);
+    private final Clerk clerk = new Clerk();
     private final Sheet[] sheets = new Sheet[SHEETS];
     private final int[] found = new int[FINDINGS];
 
@@ -348,29 +347,29 @@ public final class HatCongress {
         if (outside(n, 1, 4)) {
             return finding(BEYOND);
         }
-        if (tape.length > MOST_BYTES - n) {
+        if (clerk.tape.length > MOST_BYTES - n) {
             return finding(FULL);
         }
         for (int i = n - 1; i >= 0; i--) {
-            tape.add((bytes >>> (8 * i)) & 255);
+            clerk.tape.add((bytes >>> (8 * i)) & 255);
         }
-        return tape.length;
+        return clerk.tape.length;
     }
 
     public int wipe() {
-        int had = tape.length;
-        tape.length = 0;
+        int had = clerk.tape.length;
+        clerk.tape.length = 0;
         return had;
     }
 
     public int lobby() {
         // The text is taken down beside the table first: a fault in its last item undoes them all.
         ahead.become(table);
-        int answer = clerk.takeDown();
+        int answer = clerk.takeDown(ahead);
         if (answer >= 0) {
             table.become(ahead);
         }
-        tape.length = 0;
+        clerk.tape.length = 0;
         return answer;
     }
 
@@ -510,7 +509,7 @@ public final class HatCongress {
             case 0:
                 return table.hats;
             case 1:
-                return tape.length;
+                return clerk.tape.length;
             case 2:
                 return table.sum(Delegate.RIGHT);
             case 3:
@@ -910,7 +909,7 @@ public final class HatCongress {
         }
     }
 
-    /** Takes down the text of a lobby from the tape, a token at a time. */
+    /** Keeps the tape, and takes down the text of a lobby from it, a token at a time. */
     private static final class Clerk {
         private static final int END = 0;
         private static final int WORD = 1;
@@ -920,25 +919,19 @@ public final class HatCongress {
         /** Above every number that may be: no more digits are counted in, so that none runs over. */
         private static final int TOO_MUCH = 1000;
 
-        private final Tape tape;
-        private final Table onto;
+        final Tape tape = new Tape();
         private int token;
         private int start;
         private int end;
         private int number;
 
-        Clerk(Tape from, Table to) {
-            tape = from;
-            onto = to;
-        }
-
         /** How many items came to the table, or -1 less the place of the fault. */
-        int takeDown() {
+        int takeDown(Table onto) {
             end = 0;
             // No item is shorter than a byte, so the tape has no more items than bytes.
             for (int items = 1; items <= MOST_BYTES; items++) {
                 next();
-                if (!item()) {
+                if (!item(onto)) {
                     return -1 - start;
                 }
                 if (token == END) {
@@ -952,24 +945,24 @@ public final class HatCongress {
         }
 
         /** Each rule below leaves the token that it could not take where it is: there is the fault. */
-        private boolean item() {
+        private boolean item(Table onto) {
             int kind = kindNamed();
             if (kind >= 0) {
-                return hatItem(kind);
+                return hatItem(onto, kind);
             }
             if (takes("truth")) {
-                return truthItem();
+                return truthItem(onto);
             }
             if (takes("holds")) {
-                return holdsItem();
+                return holdsItem(onto);
             }
             if (takes("lift")) {
-                return liftItem();
+                return liftItem(onto);
             }
             return false;
         }
 
-        private boolean hatItem(int kind) {
+        private boolean hatItem(Table onto, int kind) {
             if (onto.isFull()) {
                 return false;
             }
@@ -996,7 +989,7 @@ public final class HatCongress {
             return true;
         }
 
-        private boolean truthItem() {
+        private boolean truthItem(Table onto) {
             if (!isNumberUpTo(ALL_QUESTIONS)) {
                 return false;
             }
@@ -1005,7 +998,7 @@ public final class HatCongress {
             return true;
         }
 
-        private boolean holdsItem() {
+        private boolean holdsItem(Table onto) {
             if (!isNumberUpTo(QUESTIONS - 1)) {
                 return false;
             }
@@ -1022,7 +1015,7 @@ public final class HatCongress {
             return false;
         }
 
-        private boolean liftItem() {
+        private boolean liftItem(Table onto) {
             if (!isNumberUpTo(onto.hats - 1)) {
                 return false;
             }
