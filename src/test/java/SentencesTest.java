@@ -44,7 +44,10 @@ public final class SentencesTest {
         long on(HatCongress x);
     }
 
-    private static String sentence;
+    /** All of it takes a second or two; a call that has not come to an end by then won't. */
+    private static final long MOST_MILLIS = 120_000;
+
+    private static volatile String sentence;
     private static final Map<String, Integer> answers = new LinkedHashMap<>();
     private static final List<String> quoted = new ArrayList<>();
     private static int wrong;
@@ -2207,7 +2210,22 @@ public final class SentencesTest {
         status();
     }
 
+    private static void watch() {
+        Thread watch = new Thread(() -> {
+            try {
+                Thread.sleep(MOST_MILLIS);
+            } catch (InterruptedException e) {
+                return;
+            }
+            System.out.println(sentence + "\n    a call did not end");
+            Runtime.getRuntime().halt(1);
+        });
+        watch.setDaemon(true);
+        watch.start();
+    }
+
     public static void main(String[] args) throws IOException {
+        watch();
         try {
             terms();
             promises();
